@@ -1,0 +1,176 @@
+/** Promises 19 to 25: dropsIn, deliveredIn, firstDrop, calmIn, bestThreshold, neededCapacity, culprit. */
+final class WouldBeTest {
+    private static final int LEAST = Integer.MIN_VALUE;
+    private static final int GREATEST = Integer.MAX_VALUE;
+
+    private WouldBeTest() {
+    }
+
+    private static void promise19() {
+        RefundShaper shaper = Texts.of(Scenes.FOUR);
+        int[] due = {0, 40, 47, 47, 47, 47};
+        for (int slots = 0; slots < due.length; slots++) {
+            Check.due("dropsIn " + slots, due[slots], shaper.dropsIn(slots));
+        }
+        for (int wrong : new int[] {-1, 201, LEAST, GREATEST}) {
+            Check.dueThrow("dropsIn " + wrong, IllegalArgumentException.class, () -> shaper.dropsIn(wrong));
+        }
+        RefundShaper fixed = Scenes.free(4, 100, 0, "p meek h 5 5 5 0 0 0");
+        Check.due("dropsIn 200", 200, fixed.dropsIn(200));
+        Check.due("dropsIn of none", 0, new RefundShaper().dropsIn(200));
+    }
+
+    private static void promise20() {
+        RefundShaper shaper = Texts.of(Scenes.FOUR);
+        int[][] due = {{0, 13, 31, 42, 53}, {0, 21, 36, 47, 58}, {0, 7, 17, 28, 39}, {0, 9, 16, 21, 26}};
+        for (int p = 0; p < 4; p++) {
+            for (int slots = 0; slots < 5; slots++) {
+                Check.due("deliveredIn " + p + " " + slots, due[p][slots], shaper.deliveredIn(p, slots));
+            }
+        }
+        shaper.run(1);
+        Check.due("deliveredIn is of the next slots alone", 18, shaper.deliveredIn(0, 1));
+        for (int wrong : new int[] {-1, 4, LEAST, GREATEST}) {
+            Check.dueThrow("deliveredIn " + wrong, IndexOutOfBoundsException.class, () -> shaper.deliveredIn(wrong, 1));
+            Check.dueThrow("deliveredIn " + wrong, IndexOutOfBoundsException.class, () -> shaper.deliveredIn(wrong, -1));
+        }
+        for (int wrong : new int[] {-1, 201, LEAST, GREATEST}) {
+            Check.dueThrow("deliveredIn " + wrong, IllegalArgumentException.class, () -> shaper.deliveredIn(0, wrong));
+        }
+        RefundShaper fixed = Scenes.free(4, 100, 0, "p meek h 5 5 5 0 0 0");
+        Check.due("deliveredIn 200", 800, fixed.deliveredIn(0, 200));
+    }
+
+    private static void promise21() {
+        Check.due("firstDrop of none", -1, new RefundShaper().firstDrop());
+        Check.due("firstDrop at once", 1, Texts.of(Scenes.FOUR).firstDrop());
+        // the rate is n - 1 in slot n
+        String growing = "p steady h 0 999 0 1 0 0";
+        Check.due("firstDrop", 11, Scenes.free(9, 100, 0, growing).firstDrop());
+        Check.due("firstDrop", 200, Scenes.free(198, 100, 0, growing).firstDrop());
+        Check.due("firstDrop", -1, Scenes.free(199, 100, 0, growing).firstDrop());
+    }
+
+    /** One unit is dropped in each slot for as long as the coins last, and each slot costs ten. */
+    private static RefundShaper poor(int coins) {
+        return Texts.of("link 9 100 1 0 0;house h 99999 " + coins + ";program p steady h 10 10 10 0 0 0;");
+    }
+
+    private static void promise22() {
+        Check.due("calmIn of none", 1, new RefundShaper().calmIn());
+        Check.due("calmIn", 3, Texts.of(Scenes.FOUR).calmIn());
+        Check.due("calmIn at once", 1, poor(9).calmIn());
+        Check.due("calmIn 2", 2, poor(10).calmIn());
+        Check.due("calmIn 200", 200, poor(1990).calmIn());
+        Check.due("calmIn 201", -1, poor(2000).calmIn());
+        Check.due("calmIn never", -1, poor(99999).calmIn());
+        // the rates are 8 6 7, 8 6 7, .. and 12 9 10 11, 12 9 10 11, ..
+        Check.due("two calm slots are too few", -1, Scenes.free(7, 100, 0, "p steady h 0 8 8 1 0 0").calmIn());
+        Check.due("three calm slots", 2, Scenes.free(11, 100, 0, "p steady h 0 12 12 1 0 0").calmIn());
+        // the rates are 9 7 6 6 ..
+        Check.due("calmIn 3", 3, Scenes.free(6, 100, 0, "p steady h 0 9 9 0 0 0").calmIn());
+    }
+
+    private static void promise23() {
+        // THRESHOLD 80 on: slot 1 not warned, slot 2 sends 18 of 24; below it sends 14 of 15
+        RefundShaper shaper = Scenes.free(15, 100, 0, "a steady h 0 99 6 6 50 0", "b steady h 0 99 6 6 0 0");
+        Check.due("dropsIn", 3, shaper.dropsIn(2));
+        Check.due("bestThreshold 1", 100, shaper.bestThreshold(1));
+        Check.due("bestThreshold 2", 79, shaper.bestThreshold(2));
+        Check.due("THRESHOLD stays", 100, shaper.size(3));
+        RefundShaper low = Scenes.free(99, 1, 0, "a steady h 0 99 60 0 0 0");
+        Check.due("bestThreshold of calm slots", 100, low.bestThreshold(30));
+        Check.due("bestThreshold of none", 100, new RefundShaper().bestThreshold(30));
+        // whatever the threshold is, the same is dropped
+        RefundShaper fixed = Scenes.free(4, 7, 0, "p meek h 5 5 5 0 0 0");
+        Check.due("bestThreshold of equal ones", 100, fixed.bestThreshold(30));
+        // THRESHOLD 1 warns in slot 1, as 200 > 199: slot 2 sends 1 99 99 then, otherwise 51 99 99
+        RefundShaper least = Scenes.free(199, 50, 0, "a steady h 0 999 2 99 50 0", "b steady h 0 99 0 99 0 0",
+                "c steady h 0 99 0 99 0 0");
+        Check.due("dropsIn with 50", 50, least.dropsIn(2));
+        Check.due("bestThreshold 1 of 100", 1, least.bestThreshold(2));
+        for (int wrong : new int[] {0, -1, 31, LEAST, GREATEST}) {
+            Check.dueThrow("bestThreshold " + wrong, IllegalArgumentException.class, () -> shaper.bestThreshold(wrong));
+        }
+    }
+
+    private static void promise24() {
+        RefundShaper shaper = Scenes.free(15, 100, 0, "a steady h 0 99 6 6 50 0", "b steady h 0 99 6 6 0 0");
+        // a CAPACITY below 12 warns in slot 1: 9 are sent; 9 to 11 drop in slot 2: 14 are sent; up to 17: 18 are
+        Check.due("neededCapacity 1", 9, shaper.neededCapacity(1));
+        Check.due("neededCapacity 2", 18, shaper.neededCapacity(2));
+        // 9 to 11 drop nothing, as they warn in slot 1; 12 to 18 drop in slot 2, as 19 are sent
+        RefundShaper gap = Scenes.free(12, 100, 0, "a steady h 0 99 6 20 50 0", "b steady h 0 99 6 0 0 0");
+        Check.due("dropsIn with 12", 7, gap.dropsIn(2));
+        Check.due("neededCapacity below one that drops", 9, gap.neededCapacity(2));
+        Check.due("neededCapacity of none", 1, new RefundShaper().neededCapacity(10));
+        Check.due("neededCapacity of one unit", 1, Scenes.free(9, 9, 0, "a meek h 1 1 1 0 0 0").neededCapacity(10));
+        Check.due("CAPACITY stays", 12, gap.size(2));
+        StringBuilder text = new StringBuilder("link 1 100 0 0 0;house h 99999 0;");
+        for (char c = 'a'; c < 'k'; c++) {
+            text.append("program ").append(c).append(" meek h 0 999 999 0 0 0;");
+        }
+        RefundShaper many = Texts.of(text + "program k meek h 0 20 9 0 0 0;");
+        Check.due("neededCapacity 9999", 9999, many.neededCapacity(1));
+        Check.due("neededCapacity 9999", 9999, many.neededCapacity(10));
+        many.setRate(10, 10);
+        Check.due("neededCapacity 10000", -1, many.neededCapacity(1));
+        for (int wrong : new int[] {0, -1, 11, LEAST, GREATEST}) {
+            Check.dueThrow("neededCapacity " + wrong, IllegalArgumentException.class,
+                    () -> shaper.neededCapacity(wrong));
+        }
+    }
+
+    private static void promise25() {
+        RefundShaper shaper = Scenes.free(10, 100, 0, "a meek h 0 99 5 0 0 0", "b meek h 0 99 8 0 0 0",
+                "c meek h 0 99 8 0 0 0", "d meek h 0 99 9 0 0 0");
+        Check.due("culprit", 3, shaper.culprit(1));
+        shaper.turn(3, false);
+        Check.due("culprit of equal ones, not one that is off", 1, shaper.culprit(1));
+        Check.due("it stays on", 1, shaper.program(1, 10));
+        shaper.setLink(21, 100);
+        Check.due("culprit of no drops", -1, shaper.culprit(50));
+        Check.due("culprit of none", -1, new RefundShaper().culprit(1));
+        // without the first one the second one sends as much
+        RefundShaper shared = Texts.of("link 9 100 0 0 0;house h 20 0;program a meek h 20 20 20 0 0 0;"
+                + "program b meek h 20 20 20 0 0 0;");
+        Check.due("dropsIn", 11, shared.dropsIn(1));
+        Check.due("culprit without which nothing is better", -1, shared.culprit(1));
+        for (int wrong : new int[] {0, -1, 51, LEAST, GREATEST}) {
+            Check.dueThrow("culprit " + wrong, IllegalArgumentException.class, () -> shaper.culprit(wrong));
+        }
+    }
+
+    private static void nothingChanges() {
+        RefundShaper shaper = Texts.of(Scenes.FOUR);
+        shaper.run(13);
+        long checksum = shaper.checksum();
+        String latest = Scenes.latest(shaper, 0) + Scenes.latest(shaper, 5);
+        boolean warned = shaper.isWarned();
+        shaper.dropsIn(200);
+        shaper.deliveredIn(0, 200);
+        shaper.firstDrop();
+        shaper.calmIn();
+        shaper.bestThreshold(30);
+        shaper.neededCapacity(10);
+        shaper.culprit(50);
+        Check.due("checksum", checksum, shaper.checksum());
+        Check.due("latest", latest, Scenes.latest(shaper, 0) + Scenes.latest(shaper, 5));
+        Check.due("warned", warned, shaper.isWarned());
+        Check.due("undos", 1, shaper.size(9));
+        Check.due("programs that are on", "1 1 1 1", Scenes.programs(shaper, 10));
+        Check.due("hours", 1, shaper.size(8));
+    }
+
+    public static void main(String[] arguments) {
+        promise19();
+        promise20();
+        promise21();
+        promise22();
+        promise23();
+        promise24();
+        promise25();
+        nothingChanges();
+        Check.end("WouldBeTest");
+    }
+}
