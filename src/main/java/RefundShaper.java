@@ -610,7 +610,6 @@ public final class RefundShaper {
         int base = 0;
         int misses = 0;
         boolean on = true;
-        int admitted = 0;
         final int[] inSlot = new int[SLOT_COUNTS];
         final long[] counts = new long[COUNTS];
 
@@ -627,28 +626,15 @@ public final class RefundShaper {
             base = other.base;
             misses = other.misses;
             on = other.on;
-            admitted = other.admitted;
             System.arraycopy(other.inSlot, 0, inSlot, 0, SLOT_COUNTS);
             System.arraycopy(other.counts, 0, counts, 0, COUNTS);
-        }
-
-        void startAnew() {
-            misses = 0;
-            on = true;
-            admitted = 0;
-            for (int what = 0; what < SLOT_COUNTS; what++) {
-                inSlot[what] = 0;
-            }
-            for (int what = 0; what < COUNTS; what++) {
-                counts[what] = 0;
-            }
         }
 
         void offer(Household payer, int price) {
             int offered = on ? rate : 0;
             // The cap may have been set below what is used already.
             int within = Math.min(offered, Math.max(0, payer.cap - payer.used));
-            admitted = price > 0 ? Math.min(within, payer.balance / price) : within;
+            int admitted = price > 0 ? Math.min(within, payer.balance / price) : within;
             payer.used += admitted;
             payer.balance -= admitted * price;
             inSlot[OFFERED] = offered;
@@ -659,8 +645,12 @@ public final class RefundShaper {
         }
 
         void yieldFor(Household payer, int refund) {
-            inSlot[YIELDED] = admitted * percent / 100;
+            inSlot[YIELDED] = admittedUnits() * percent / 100;
             payer.balance += inSlot[YIELDED] * refund;
+        }
+
+        int admittedUnits() {
+            return inSlot[OFFERED] - inSlot[CAPPED] - inSlot[UNPAID];
         }
 
         boolean hasYielded() {
@@ -668,7 +658,7 @@ public final class RefundShaper {
         }
 
         int sentUnits() {
-            return admitted - inSlot[YIELDED];
+            return admittedUnits() - inSlot[YIELDED];
         }
 
         void deliver(Household receiver, int price, int refund) {
@@ -677,7 +667,7 @@ public final class RefundShaper {
             for (int what = 0; what < SLOT_COUNTS; what++) {
                 counts[what] += inSlot[what];
             }
-            counts[PAID] += admitted * price;
+            counts[PAID] += admittedUnits() * price;
             counts[REFUNDED] += inSlot[YIELDED] * refund;
         }
 
@@ -759,23 +749,12 @@ public final class RefundShaper {
             System.arraycopy(other.hours, 0, hours, 0, hours.length);
         }
 
-        void startAnew() {
-            time = 0;
-            warnedSlots = 0;
-            droppingSlots = 0;
-            warned = false;
-            householdCount = 0;
-            programCount = 0;
-        }
-
         void addHousehold(long name, int cap, int balance) {
             if (householdCount < MOST_HOUSEHOLDS) {
                 Household added = households[householdCount];
                 added.name = name;
                 added.cap = cap;
                 added.balance = balance;
-                added.used = 0;
-                added.delivered = 0;
                 householdCount++;
             }
         }
@@ -886,7 +865,7 @@ public final class RefundShaper {
         int admittedUnits() {
             int units = 0;
             for (int p = 0; p < programCount; p++) {
-                units += programs[p].admitted;
+                units += programs[p].admittedUnits();
             }
             return units;
         }
@@ -1011,7 +990,9 @@ public final class RefundShaper {
             filled = 0;
             next = 0;
             code = 0;
-            link.startAnew();
+            // No slot passes in this link: nothing else of an earlier text is left in it.
+            link.householdCount = 0;
+            link.programCount = 0;
             take();
             readTerms();
             // Each statement takes at least one byte.
@@ -1061,7 +1042,7 @@ public final class RefundShaper {
             take();
             // The row behind the last program counts only once all of it is read.
             Program program = link.programs[link.programCount];
-            program.startAnew();
+            program.on = true;
             require(token == WORD, 1);
             require(link.programNamed(word) == NONE, 3);
             program.name = word;

@@ -127,6 +127,9 @@ final class HoursTest {
         RefundShaper none = Texts.of("link 9 9 9 0 0;house h 9 0;program p meek h 7 7 7 0 0 0;");
         none.run(1);
         Check.due("served unpaid", 0.0f, none.served(0));
+        RefundShaper one = Texts.of("link 9 9 9 0 0;house h 9 0;program p meek h 1 1 1 0 0 0;");
+        one.run(1);
+        Check.due("served one unit unpaid", 0.0f, one.served(0));
     }
 
     private static void promise17() {
@@ -139,6 +142,9 @@ final class HoursTest {
         Check.due("mostYielding 12 15 0 1", 1, shaper.mostYielding());
         shaper.run(1);
         Check.due("mostYielding 19 19 1 3", 0, shaper.mostYielding());
+        RefundShaper one = Scenes.free(9, 1, 0, "a steady h 0 9 4 0 24 0", "b steady h 0 9 4 0 25 0");
+        one.run(1);
+        Check.due("mostYielding 0 1", 1, one.mostYielding());
     }
 
     private static void promise18() {

@@ -143,6 +143,11 @@ final class SlotTest {
         yielders.run(1);
         Check.due("dropped", "1 1 1", Scenes.latest(yielders, 4));
         Check.due("run", 3, yielders.total(4));
+        RefundShaper one = Scenes.free(5, 100, 0, "a steady h 0 9 1 0 0 0", "b steady h 0 9 6 0 25 0");
+        // sent 1 5, the excess is 1
+        Check.due("run", 1, one.run(1));
+        Check.due("dropped", "1 0", Scenes.latest(one, 4));
+        Check.due("dropping slots", 1, one.size(12));
         RefundShaper fits = Scenes.free(7, 100, 0, "a steady h 0 9 7 0 0 0");
         Check.due("as many as the CAPACITY", 0, fits.run(1));
         Check.due("dropping slots", 0, fits.size(12));
@@ -164,6 +169,10 @@ final class SlotTest {
         Check.due("yielded", "4 4 0 0", Scenes.latest(copying, 3));
         Check.due("dropped", "9 3 20 20", Scenes.latest(copying, 4));
         Check.due("yields", "20 40 20 20", Scenes.programs(copying, 6));
+        RefundShaper single = Scenes.free(1, 100, 9, "a steady h 0 99 2 0 50 0", "b copying h 0 99 9 0 3 7");
+        single.run(1);
+        Check.due("yielded", "1 0", Scenes.latest(single, 3));
+        Check.due("yields", "50 50", Scenes.programs(single, 6));
         // its own one is as great or greater: it grows by LEARN; the one to copy may be itself
         RefundShaper own = Scenes.free(1, 100, 9, "a copying h 0 99 40 0 30 9", "b copying h 0 99 20 0 30 8",
                 "c copying h 0 99 10 0 31 7", "d copying h 0 99 10 0 29 6", "e copying h 0 99 10 0 70 50");

@@ -70,6 +70,30 @@ final class TextsTest {
         Check.due("delivered behind parse", 0, shaper.household(0, 3));
         Check.due("misses behind parse", 0, shaper.program(0, 9));
         Check.due("checksum behind parse", Texts.of(ONE).checksum(), shaper.checksum());
+        Texts.parse(shaper, ONE + "off p;");
+        Check.due("off", 0, shaper.program(0, 10));
+        Texts.parse(shaper, ONE);
+        Check.due("on again in another text", 1, shaper.program(0, 10));
+    }
+
+    /** The bytes behind those that are parsed do not count. */
+    private static void parsesFirstBytes() {
+        RefundShaper shaper = new RefundShaper();
+        Texts.append(shaper, "link 9 9 9 9 99;");
+        Check.due("parse behind a digit", -2 - (8 * 14 + 1), shaper.parse(14));
+        Texts.append(shaper, "link 9 9 9 9  9;");
+        Check.due("parse behind a blank", -2 - (8 * 13 + 1), shaper.parse(13));
+        Texts.append(shaper, "link 9 9 9 9 9;;");
+        Check.due("parse behind a semicolon", 0, shaper.parse(15));
+        Texts.append(shaper, "links");
+        Check.due("parse in a word", -2 - (8 * 4 + 1), shaper.parse(4));
+        Texts.append(shaper, "link 9 9 9 9 9;house abcdefghi 9 9;");
+        Check.due("parse in a long word", -2 - (8 * 29 + 1), shaper.parse(29));
+        Texts.append(shaper, "link 9 9 9 9 9;house h 99999 999999;");
+        Check.due("parse in a long number", -2 - (8 * 34 + 1), shaper.parse(34));
+        Texts.append(shaper, ONE);
+        Check.due("parse of less than all", 0, shaper.parse(HOME.length()));
+        Check.due("households", 1, shaper.size(0));
     }
 
     private static void errorChangesNothing() {
@@ -255,6 +279,7 @@ final class TextsTest {
         parseReplaces();
         errorChangesNothing();
         bytesOutOfRange();
+        parsesFirstBytes();
         tokens();
         ends();
         numbers();

@@ -89,6 +89,9 @@ final class WouldBeTest {
                 "c steady h 0 99 0 99 0 0");
         Check.due("dropsIn with 50", 50, least.dropsIn(2));
         Check.due("bestThreshold 1 of 100", 1, least.bestThreshold(2));
+        // with 200 no THRESHOLD from 1 on warns in slot 1
+        least.setLink(200, 50);
+        Check.due("bestThreshold has no 0", 100, least.bestThreshold(2));
         for (int wrong : new int[] {0, -1, 31, LEAST, GREATEST}) {
             Check.dueThrow("bestThreshold " + wrong, IllegalArgumentException.class, () -> shaper.bestThreshold(wrong));
         }
@@ -103,6 +106,12 @@ final class WouldBeTest {
         RefundShaper gap = Scenes.free(12, 100, 0, "a steady h 0 99 6 20 50 0", "b steady h 0 99 6 0 0 0");
         Check.due("dropsIn with 12", 7, gap.dropsIn(2));
         Check.due("neededCapacity below one that drops", 9, gap.neededCapacity(2));
+        // 10 to 19 warn in slot 1, so a has coins left for slot 2: 27 are sent; from 20 on it has none: 22 are sent
+        RefundShaper spent = Texts.of("link 50 100 1 1 0;house h 999 20;house g 999 99999;"
+                + "program a steady h 0 20 20 0 50 0;program b steady g 0 22 0 22 0 0;");
+        Check.due("neededCapacity 1", 10, spent.neededCapacity(1));
+        Check.due("neededCapacity that ends a warning", 22, spent.neededCapacity(2));
+        Check.due("neededCapacity 2", 2, Scenes.free(9, 9, 0, "a meek h 2 2 2 0 0 0").neededCapacity(1));
         Check.due("neededCapacity of none", 1, new RefundShaper().neededCapacity(10));
         Check.due("neededCapacity of one unit", 1, Scenes.free(9, 9, 0, "a meek h 1 1 1 0 0 0").neededCapacity(10));
         Check.due("CAPACITY stays", 12, gap.size(2));
@@ -128,7 +137,9 @@ final class WouldBeTest {
         shaper.turn(3, false);
         Check.due("culprit of equal ones, not one that is off", 1, shaper.culprit(1));
         Check.due("it stays on", 1, shaper.program(1, 10));
-        shaper.setLink(21, 100);
+        shaper.setRate(0, 9);
+        Check.due("culprit 0", 0, shaper.culprit(1));
+        shaper.setLink(25, 100);
         Check.due("culprit of no drops", -1, shaper.culprit(50));
         Check.due("culprit of none", -1, new RefundShaper().culprit(1));
         // without the first one the second one sends as much
