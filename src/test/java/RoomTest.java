@@ -21,6 +21,7 @@ final class RoomTest {
             sum += shaper.run(200) + shaper.dropsIn(200) + shaper.deliveredIn(0, 200) + shaper.firstDrop();
             sum += shaper.calmIn() + shaper.bestThreshold(30) + shaper.neededCapacity(10) + shaper.culprit(50);
             sum += shaper.unfairest() + shaper.report() + shaper.checksum() + shaper.undo() + shaper.dropRow(3);
+            sum += shaper.total(0) + shaper.mostYielding() + (long) (1000 * shaper.fairnessOfPrograms());
             sum += (shaper.saveSnapshot(0) ? 1 : 0) + shaper.restoreSnapshot(0) + shaper.append(1, 2, 3, 4, 5);
         }
         return sum;

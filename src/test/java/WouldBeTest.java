@@ -97,6 +97,11 @@ final class WouldBeTest {
         }
     }
 
+    private static RefundShaper spending(int threshold, int secondRate) {
+        return Texts.of("link 50 " + threshold + " 1 1 0;house h 999 20;house g 999 99999;"
+                + "program a steady h 0 20 20 0 50 0;program b steady g 0 " + secondRate + " 0 " + secondRate + " 0 0;");
+    }
+
     private static void promise24() {
         RefundShaper shaper = Scenes.free(15, 100, 0, "a steady h 0 99 6 6 50 0", "b steady h 0 99 6 6 0 0");
         // a CAPACITY below 12 warns in slot 1: 9 are sent; 9 to 11 drop in slot 2: 14 are sent; up to 17: 18 are
@@ -107,10 +112,12 @@ final class WouldBeTest {
         Check.due("dropsIn with 12", 7, gap.dropsIn(2));
         Check.due("neededCapacity below one that drops", 9, gap.neededCapacity(2));
         // 10 to 19 warn in slot 1, so a has coins left for slot 2: 27 are sent; from 20 on it has none: 22 are sent
-        RefundShaper spent = Texts.of("link 50 100 1 1 0;house h 999 20;house g 999 99999;"
-                + "program a steady h 0 20 20 0 50 0;program b steady g 0 22 0 22 0 0;");
+        RefundShaper spent = spending(100, 22);
         Check.due("neededCapacity 1", 10, spent.neededCapacity(1));
-        Check.due("neededCapacity that ends a warning", 22, spent.neededCapacity(2));
+        Check.due("neededCapacity above one that ends a warning", 22, spent.neededCapacity(2));
+        Check.due("neededCapacity that ends a warning", 20, spending(100, 20).neededCapacity(2));
+        Check.due("neededCapacity that ends a warning", 25, spending(80, 25).neededCapacity(2));
+        Check.due("neededCapacity that ends a warning", 25, spending(81, 25).neededCapacity(2));
         Check.due("neededCapacity 2", 2, Scenes.free(9, 9, 0, "a meek h 2 2 2 0 0 0").neededCapacity(1));
         Check.due("neededCapacity of none", 1, new RefundShaper().neededCapacity(10));
         Check.due("neededCapacity of one unit", 1, Scenes.free(9, 9, 0, "a meek h 1 1 1 0 0 0").neededCapacity(10));
