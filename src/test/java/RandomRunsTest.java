@@ -34,6 +34,9 @@ final class RandomRunsTest {
     }
 
     private void both(String call, Check.Call ours, Check.Call theirs) {
+        if (calls == CALLS) {
+            return;
+        }
         calls++;
         String due = Check.answerOf(theirs);
         String got = Check.answerOf(ours);

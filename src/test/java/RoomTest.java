@@ -45,7 +45,7 @@ final class RoomTest {
         long start = meter.getThreadAllocatedBytes(thread);
         RefundShaper measured = shaper(text);
         long made = meter.getThreadAllocatedBytes(thread);
-        sum += calls(measured, text.length(), 30);
+        sum += calls(measured, text.length(), 20);
         long called = meter.getThreadAllocatedBytes(thread);
         System.out.println("RoomTest: " + (made - start) + " bytes made, " + (called - made) + " by calls, sum " + sum);
         if (meter.isThreadAllocatedMemorySupported() && meter.isThreadAllocatedMemoryEnabled()) {

@@ -32,6 +32,22 @@ final class Scenes {
         return Texts.of(text.toString());
     }
 
+    /** As many households and programs as there can be, two programs in each household, and all kinds. */
+    static String full(int capacity, int threshold, int price, int refund, int forget) {
+        String[] kinds = {"meek", "steady", "stubborn", "copying"};
+        StringBuilder text = new StringBuilder("link " + capacity + " " + threshold + " " + price + " " + refund + " "
+                + forget + ";");
+        for (int h = 0; h < 6; h++) {
+            text.append("house h").append((char) ('a' + h)).append(" 999 ").append(9000 + h).append(';');
+        }
+        for (int p = 0; p < 12; p++) {
+            text.append("program p").append((char) ('a' + p)).append(' ').append(kinds[p % 4]).append(" h")
+                    .append((char) ('a' + p / 2)).append(" 1 40 ").append(p + 3).append(' ').append(p % 5).append(' ')
+                    .append(p * 4).append(' ').append(p % 7).append(';');
+        }
+        return text.toString();
+    }
+
     /** The numbers of all programs, with a space between. */
     static String programs(RefundShaper shaper, int what) {
         StringBuilder numbers = new StringBuilder();

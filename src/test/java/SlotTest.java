@@ -4,29 +4,51 @@ final class SlotTest {
     }
 
     private static void promise26() {
+        Check.sentence("Promise 26: run");
         RefundShaper shaper = Texts.of(Scenes.FOUR);
-        for (int wrong : new int[] {0, -1, 201, Integer.MIN_VALUE, Integer.MAX_VALUE}) {
-            Check.dueThrow("run " + wrong, IllegalArgumentException.class, () -> shaper.run(wrong));
-        }
-        Check.due("time behind exceptions", 0, shaper.size(7));
-        Check.due("undos behind exceptions", 0, shaper.size(9));
         Check.due("run 1", 40, shaper.run(1));
         Check.due("run 2", 7, shaper.run(2));
         Check.due("run 1", 0, shaper.run(1));
         Check.due("time", 4, shaper.size(7));
         Check.due("run as one", 47, Texts.of(Scenes.FOUR).run(4));
-        RefundShaper empty = new RefundShaper();
-        Check.due("run of none", 0, empty.run(200));
-        for (int i = 0; i < 498; i++) {
-            empty.run(200);
+        Check.due("run of none", 0, new RefundShaper().run(200));
+        lastTime();
+    }
+
+    private static RefundShaper at99800() {
+        RefundShaper shaper = new RefundShaper();
+        for (int i = 0; i < 499; i++) {
+            shaper.run(200);
         }
-        Check.due("time", 99800, empty.size(7));
-        Check.due("run to 99801", 0, empty.run(1));
-        Check.dueThrow("run to 100001", IllegalArgumentException.class, () -> empty.run(200));
-        Check.due("run to 100000", 0, empty.run(199));
-        Check.dueThrow("run to 100001", IllegalArgumentException.class, () -> empty.run(1));
-        Check.due("time", 100000, empty.size(7));
-        Check.due("calmIn at the end of TIME", 1, empty.calmIn());
+        return shaper;
+    }
+
+    /** The few calls that are left of 512 at the greatest TIME. */
+    private static void lastTime() {
+        Check.sentence("1 to 200, the TIME not more than 100000 then");
+        RefundShaper whole = at99800();
+        Check.due("run to 100000 by 200", 0, whole.run(200));
+        Check.due("TIME", 100000, whole.size(7));
+        Check.dueThrow("run to 100001", IllegalArgumentException.class, () -> whole.run(1));
+        Check.dueThrow("run to 100200", IllegalArgumentException.class, () -> whole.run(200));
+        Check.due("TIME", 100000, whole.size(7));
+        Check.due("hours", 24, whole.size(8));
+        Check.due("fairness of the last hour", 1.0, whole.fairness(8332));
+        RefundShaper parts = at99800();
+        parts.run(1);
+        long checksum = parts.checksum();
+        Check.dueThrow("run to 100001 by 200", IllegalArgumentException.class, () -> parts.run(200));
+        Check.due("checksum behind it", checksum, parts.checksum());
+        Check.due("undos behind it", 8, parts.size(9));
+        Check.due("run to 100000 by 199", 0, parts.run(199));
+        Check.dueThrow("run to 100001 by 1", IllegalArgumentException.class, () -> parts.run(1));
+        Check.due("undo of the run to 100000", 7, parts.undo());
+        Check.due("checksum behind undo", checksum, parts.checksum());
+        RefundShaper last = at99800();
+        last.run(199);
+        Check.dueThrow("run to 100001 by 2", IllegalArgumentException.class, () -> last.run(2));
+        Check.due("run to 100000 by 1", 0, last.run(1));
+        Check.due("TIME", 100000, last.size(7));
     }
 
     private static void fourKinds() {

@@ -33,11 +33,30 @@ final class Texts {
         return shaper;
     }
 
+    /** What parse has to answer for an error. */
+    static int error(int offset, int code) {
+        return -2 - (8 * offset + code);
+    }
+
+    static void isFine(String text, int programs) {
+        Check.due(text, programs, parse(new RefundShaper(), text));
+    }
+
+    static void isWrong(String text, int offset, int code) {
+        Check.due(text, error(offset, code), parse(new RefundShaper(), text));
+    }
+
+    /** A text that is wrong from its last token on, also if more comes behind it. */
+    static void isWrongAt(String ahead, String token, int code) {
+        isWrong(ahead + token, ahead.length(), code);
+        isWrong(ahead + token + " ;", ahead.length(), code);
+    }
+
     /** The latest report as a text. */
     static String report(RefundShaper shaper) {
         StringBuilder signs = new StringBuilder();
-        for (int i = 0; shaper.reportByte(i) != RefundShaper.NONE; i++) {
-            signs.append((char) shaper.reportByte(i));
+        for (int sign = shaper.reportByte(0); sign != RefundShaper.NONE; sign = shaper.reportByte(signs.length())) {
+            signs.append((char) sign);
         }
         return signs.toString();
     }
