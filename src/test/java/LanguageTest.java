@@ -4,7 +4,10 @@ import java.nio.file.Path;
 import java.util.regex.Matcher;
 import java.util.regex.Pattern;
 
-/** The rules of LANGUAGE.md that the text of the class shows by itself. Runs in the project's folder. */
+/**
+ * The rules of LANGUAGE.md that the text of the class shows by itself, and some words that it would allow but that
+ * the class does without. Runs in the project's folder.
+ */
 final class LanguageTest {
     private static final Path SOURCE = Path.of("src/main/java/RefundShaper.java");
     private static final String[] FORBIDDEN = {"->", "::", "\\bcatch\\b", "\\btry\\b", "\\bfinally\\b",

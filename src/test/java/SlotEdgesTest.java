@@ -261,6 +261,10 @@ final class SlotEdgesTest {
         drops(6, "0 2 0 1", 8, 50, 2, 0, 2, 50, 2, 0);
         drops(3, "1 1 0", 4, 50, 2, 50, 4, 50);
         drops(2, "2 0 1", 4, 50, 2, 50, 4, 50);
+        RefundShaper capped = Texts.of("link 5 1 0 0 0;house h 3 0;house g 99 0;program a steady h 0 99 10 0 0 0;"
+                + "program b steady g 0 99 3 0 0 0;");
+        capped.run(1);
+        after(capped, "dropped of one that has sent few of what it offered", 4, "1 0");
         int[] most = new int[24];
         for (int p = 0; p < 12; p++) {
             most[2 * p] = 999;

@@ -10,7 +10,7 @@ final class TextsTest {
 
     /** Something of everything: 6 households and 12 programs that have run, with changes, snapshots and a report. */
     private static RefundShaper busy() {
-        RefundShaper shaper = Texts.of(Scenes.full(40, 90, 2, 1, 3));
+        RefundShaper shaper = Texts.of(Scenes.full(40, 90, 2, 1, 3) + "off pa;off pl;");
         shaper.turn(2, false);
         shaper.run(27);
         shaper.report();
@@ -398,6 +398,13 @@ final class TextsTest {
             }
             Check.due("run", made.run(13), parsed.run(13));
             Check.due("checksum", made.checksum(), parsed.checksum());
+        }
+        Check.sentence("a text, which replaces everything");
+        for (String wrong : new String[] {ONE + "off p;?", HOME + "house x 9 9;program p steady x 2 8 7 6 5 4;?"}) {
+            RefundShaper shaper = Texts.of(ONE);
+            Texts.parse(shaper, wrong);
+            Check.due("a text behind one with an error", 1, Texts.parse(shaper, ONE));
+            Check.alike("all of it", Whole.of(Texts.of(ONE)), Whole.of(shaper));
         }
         Check.sentence("Returns the number of programs");
         Texts.isFine(Scenes.full(9999, 100, 0, 0, 0), 12);

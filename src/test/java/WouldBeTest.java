@@ -102,7 +102,7 @@ final class WouldBeTest {
         // the rates are 8 6 7, 8 6 7, .. and 12 9 10 11, 12 9 10 11, ..
         Check.due("two calm slots are too few", -1, Scenes.free(7, 100, 0, "p steady h 0 8 8 1 0 0").calmIn());
         Check.due("three calm slots", 2, Scenes.free(11, 100, 0, "p steady h 0 12 12 1 0 0").calmIn());
-        Check.sentence("the first of 3 slots, one behind the other, in which nothing would be dropped, if it is at most 200");
+        Check.sentence("Returns the number of the first of 3 slots, one behind the other, in which nothing would be dropped, counted from 1 for the next one, if it is at most 200");
         // 10 slots of each hour drop, 2 do not; slots 201 and 202, 200 and 201, or 199 and 200 are such two
         for (int slots = 2; slots <= 4; slots++) {
             RefundShaper two = Texts.of("link 4 100 0 0 0;house h 50 0;program p meek h 5 5 5 0 0 0;");
@@ -170,6 +170,11 @@ final class WouldBeTest {
         Check.due("neededCapacity of none", 1, new RefundShaper().neededCapacity(10));
         Check.due("neededCapacity of one unit", 1, Scenes.free(9, 9, 0, "a meek h 1 1 1 0 0 0").neededCapacity(10));
         Check.due("CAPACITY stays", 12, gap.size(2));
+        // the rate is n - 1 in slot n
+        RefundShaper growing = Scenes.free(9999, 100, 0, "p steady h 0 999 0 1 0 0");
+        for (int slots = 1; slots <= 10; slots++) {
+            Check.due("neededCapacity " + slots, Math.max(1, slots - 1), growing.neededCapacity(slots));
+        }
         StringBuilder text = new StringBuilder("link 1 100 0 0 0;house h 99999 0;");
         for (char c = 'a'; c < 'k'; c++) {
             text.append("program ").append(c).append(" meek h 0 999 999 0 0 0;");
@@ -194,7 +199,7 @@ final class WouldBeTest {
         shaper.setLink(25, 100);
         Check.due("culprit of no drops", -1, shaper.culprit(50));
         Check.due("culprit of none", -1, new RefundShaper().culprit(1));
-        Check.sentence("the program without which the fewest units would be dropped in so many slots, of several the lowest one");
+        Check.sentence("Returns the program without which (if it was turned off now, of those that are on) the fewest units would be dropped in so many slots, of several the lowest one; NONE if they would not become fewer by any");
         String[] programs = new String[12];
         for (int p = 0; p < 12; p++) {
             programs[p] = (char) ('a' + p) + " meek h 0 99 " + (p + 3) + " 0 0 0";
@@ -208,6 +213,9 @@ final class WouldBeTest {
         Check.due("culprit", 10, full.culprit(1));
         full.setLink(88, 100);
         Check.due("culprit", 11, full.culprit(1));
+        RefundShaper growing = Scenes.free(48, 100, 0, "p steady h 0 999 0 1 0 0");
+        Check.due("culprit in 49 slots", -1, growing.culprit(49));
+        Check.due("culprit in 50 slots, in the last one 49 of 48 are sent", 0, growing.culprit(50));
         RefundShaper single = Scenes.free(10, 100, 0, "a meek h 0 99 0 0 0 0", "b meek h 0 99 10 0 0 0",
                 "c meek h 0 99 1 0 0 0");
         Check.due("culprit of one unit", 1, single.culprit(1));
