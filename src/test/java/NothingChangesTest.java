@@ -1,6 +1,6 @@
 import java.util.NoSuchElementException;
 
-/** The calls that change nothing: those that are refused, each with its exception, and those that only tell. */
+/** The ends of each range, and the calls that change nothing: those that are refused, and those that only tell. */
 final class NothingChangesTest {
     private static final int LEAST = Integer.MIN_VALUE;
     private static final int GREATEST = Integer.MAX_VALUE;
@@ -77,12 +77,45 @@ final class NothingChangesTest {
         refused(call + " with the greatest int", due, shaper -> made.on(shaper, GREATEST));
     }
 
-    private static void texts() {
-        Check.sentence("IllegalArgumentException if bytes is out of range");
-        refusedWith("parse", ARGUMENT, RefundShaper::parse, -1, 61, 700, 701);
+    /** Both ends of a range are taken, what lies beyond them is refused. */
+    private static void range(String call, Class<? extends RuntimeException> due, MadeWith made, int least, int most) {
+        for (int end : new int[] {least, most}) {
+            RefundShaper shaper = busy();
+            Check.due(call + " with " + end, "taken",
+                    Check.answerOf(() -> made.on(shaper, end)).startsWith("throws") ? "refused" : "taken");
+        }
+        refusedWith(call, due, made, least - 1, most + 1);
+    }
+
+    private static void told() {
+        Check.sentence("bytes: 0 to the length of the buffer");
+        range("parse", ARGUMENT, RefundShaper::parse, 0, 60);
         Check.sentence("IllegalArgumentException if what is out of range");
-        refusedWith("size", ARGUMENT, RefundShaper::size, -1, 13);
-        refusedWith("total", ARGUMENT, RefundShaper::total, -1, 8);
+        range("size", ARGUMENT, RefundShaper::size, 0, 12);
+        range("total", ARGUMENT, RefundShaper::total, 0, 7);
+        range("household what", ARGUMENT, (shaper, n) -> shaper.household(1, n), 0, 5);
+        range("program what", ARGUMENT, (shaper, n) -> shaper.program(3, n), 0, 10);
+        range("counted what", ARGUMENT, (shaper, n) -> shaper.counted(3, n), 0, 7);
+        range("latest what", ARGUMENT, (shaper, n) -> shaper.latest(3, n), 0, 5);
+        Check.sentence("NoSuchElementException if the hour is not kept");
+        range("hour", ELEMENT, (shaper, n) -> shaper.hour(n, 1), 0, 0);
+        range("fairness", ELEMENT, RefundShaper::fairness, 0, 0);
+        refusedWith("hour", ELEMENT, (shaper, n) -> shaper.hour(n, 1), -24, 24);
+        refusedWith("fairness", ELEMENT, RefundShaper::fairness, -24, 24);
+    }
+
+    private static void slots() {
+        Check.sentence("slots: 0 to 200");
+        range("dropsIn", ARGUMENT, RefundShaper::dropsIn, 0, 200);
+        range("deliveredIn slots", ARGUMENT, (shaper, n) -> shaper.deliveredIn(3, n), 0, 200);
+        Check.sentence("slots: 1 to 30");
+        range("bestThreshold", ARGUMENT, RefundShaper::bestThreshold, 1, 30);
+        Check.sentence("slots: 1 to 10");
+        range("neededCapacity", ARGUMENT, RefundShaper::neededCapacity, 1, 10);
+        Check.sentence("slots: 1 to 50");
+        range("culprit", ARGUMENT, RefundShaper::culprit, 1, 50);
+        Check.sentence("slots: 1 to 200");
+        range("run", ARGUMENT, RefundShaper::run, 1, 200);
     }
 
     private static void noHousehold() {
@@ -123,45 +156,27 @@ final class NothingChangesTest {
         refusedWith("setYield 101", INDEX, (shaper, n) -> shaper.setYield(n, 101), -1, 4);
     }
 
-    private static void outOfRange() {
-        Check.sentence("IllegalArgumentException");
-        refusedWith("household what", ARGUMENT, (shaper, n) -> shaper.household(1, n), -1, 6);
-        refusedWith("program what", ARGUMENT, (shaper, n) -> shaper.program(3, n), -1, 11);
-        refusedWith("counted what", ARGUMENT, (shaper, n) -> shaper.counted(3, n), -1, 8);
-        refusedWith("latest what", ARGUMENT, (shaper, n) -> shaper.latest(3, n), -1, 6);
-        Check.sentence("NoSuchElementException if the hour is not kept");
-        refusedWith("hour", ELEMENT, (shaper, n) -> shaper.hour(n, 1), -1, 1, 24);
-        refusedWith("fairness", ELEMENT, RefundShaper::fairness, -1, 1, 24);
-        Check.sentence("IllegalArgumentException if slots is out of range");
-        refusedWith("dropsIn", ARGUMENT, RefundShaper::dropsIn, -1, 201);
-        refusedWith("deliveredIn slots", ARGUMENT, (shaper, n) -> shaper.deliveredIn(3, n), -1, 201);
-        refusedWith("bestThreshold", ARGUMENT, RefundShaper::bestThreshold, -1, 0, 31);
-        refusedWith("neededCapacity", ARGUMENT, RefundShaper::neededCapacity, -1, 0, 11);
-        refusedWith("culprit", ARGUMENT, RefundShaper::culprit, -1, 0, 51);
-        refusedWith("run", ARGUMENT, RefundShaper::run, -1, 0, 201);
-    }
-
     private static void changes() {
-        Check.sentence("IllegalArgumentException if rate is out of range");
-        refusedWith("setRate of ma, 10 to 40", ARGUMENT, (shaper, n) -> shaper.setRate(0, n), -1, 0, 9, 41);
-        refusedWith("setRate of co, 0 to 30", ARGUMENT, (shaper, n) -> shaper.setRate(3, n), -1, 31);
-        Check.sentence("IllegalArgumentException if percent is out of range");
-        refusedWith("setYield", ARGUMENT, (shaper, n) -> shaper.setYield(3, n), -1, 101);
-        Check.sentence("IllegalArgumentException if cap is out of range");
-        refusedWith("setCap", ARGUMENT, (shaper, n) -> shaper.setCap(1, n), -1, 0, 100000);
-        Check.sentence("IllegalArgumentException if coins is out of range");
-        refusedWith("topUp", ARGUMENT, (shaper, n) -> shaper.topUp(1, n), -1, 0, 100000);
+        Check.sentence("rate: FLOOR to CEILING");
+        range("setRate of ma", ARGUMENT, (shaper, n) -> shaper.setRate(0, n), 10, 40);
+        range("setRate of co", ARGUMENT, (shaper, n) -> shaper.setRate(3, n), 0, 30);
+        Check.sentence("percent: 0 to 100");
+        range("setYield", ARGUMENT, (shaper, n) -> shaper.setYield(3, n), 0, 100);
+        Check.sentence("cap: 1 to 99999");
+        range("setCap", ARGUMENT, (shaper, n) -> shaper.setCap(1, n), 1, 99999);
+        Check.sentence("coins: 1 to 99999");
+        range("topUp", ARGUMENT, (shaper, n) -> shaper.topUp(1, n), 1, 99999);
         Check.sentence("IllegalArgumentException if one of them is out of range");
-        refusedWith("setLink capacity", ARGUMENT, (shaper, n) -> shaper.setLink(n, 30), -1, 0, 10000);
-        refusedWith("setLink threshold", ARGUMENT, (shaper, n) -> shaper.setLink(30, n), -1, 0, 101);
-        refusedWith("setLink both", ARGUMENT, (shaper, n) -> shaper.setLink(n, n), -1, 0, 10000);
-        refusedWith("setPrices price", ARGUMENT, (shaper, n) -> shaper.setPrices(n, 0), -1, 100);
-        refusedWith("setPrices refund", ARGUMENT, (shaper, n) -> shaper.setPrices(9, n), -1, 10, 99);
-        refusedWith("setPrices refund of PRICE 0", ARGUMENT, (shaper, n) -> shaper.setPrices(0, n), -1, 1);
-        refusedWith("setPrices refund of PRICE 99", ARGUMENT, (shaper, n) -> shaper.setPrices(99, n), -1, 100);
-        refusedWith("setPrices both", ARGUMENT, (shaper, n) -> shaper.setPrices(n, n), -1, 100);
-        Check.sentence("IllegalArgumentException if slot is out of range");
-        refusedWith("saveSnapshot", ARGUMENT, RefundShaper::saveSnapshot, -1, 2);
+        range("setLink capacity", ARGUMENT, (shaper, n) -> shaper.setLink(n, 30), 1, 9999);
+        range("setLink threshold", ARGUMENT, (shaper, n) -> shaper.setLink(30, n), 1, 100);
+        range("setLink both", ARGUMENT, (shaper, n) -> shaper.setLink(n, n), 1, 100);
+        range("setPrices price", ARGUMENT, (shaper, n) -> shaper.setPrices(n, 0), 0, 99);
+        range("setPrices refund of PRICE 9", ARGUMENT, (shaper, n) -> shaper.setPrices(9, n), 0, 9);
+        range("setPrices refund of PRICE 0", ARGUMENT, (shaper, n) -> shaper.setPrices(0, n), 0, 0);
+        range("setPrices refund of PRICE 99", ARGUMENT, (shaper, n) -> shaper.setPrices(99, n), 0, 99);
+        range("setPrices both", ARGUMENT, (shaper, n) -> shaper.setPrices(n, n), 0, 99);
+        Check.sentence("slot: 0 or 1");
+        range("saveSnapshot", ARGUMENT, RefundShaper::saveSnapshot, 0, 1);
         refusedWith("restoreSnapshot", ARGUMENT, RefundShaper::restoreSnapshot, -1, 2);
         Check.sentence("IllegalStateException if the slot is empty");
         refused("restoreSnapshot(1)", STATE, shaper -> shaper.restoreSnapshot(1));
@@ -169,7 +184,7 @@ final class NothingChangesTest {
 
     /** A balance that is full takes a hundred calls. */
     private static void fullBalance() {
-        Check.sentence("IllegalStateException if the balance would be greater than 9999999");
+        Check.sentence("a balance (0 to 9999999 coins)");
         RefundShaper shaper = Texts.of("link 9 9 9 9 9;house a 9 99;house b 9 99999;");
         for (int i = 1; i <= 99; i++) {
             Check.due("topUp 99999", 99 + 99999 * i, shaper.topUp(0, 99999));
@@ -178,6 +193,7 @@ final class NothingChangesTest {
         Check.dueThrow("topUp to 10000000", STATE, () -> shaper.topUp(0, 99999));
         Check.due("balance behind it", 9900001, shaper.household(0, 1));
         Check.due("topUp to 9999999", 9999999, shaper.topUp(0, 99998));
+        Check.sentence("IllegalStateException if the balance would be greater than 9999999");
         String before = Whole.of(shaper);
         for (int coins : new int[] {1, 2, 99998, 99999}) {
             Check.dueThrow("topUp above it by " + coins, STATE, () -> shaper.topUp(0, coins));
@@ -243,10 +259,10 @@ final class NothingChangesTest {
     }
 
     public static void main(String[] arguments) {
-        texts();
+        told();
+        slots();
         noHousehold();
         noProgram();
-        outOfRange();
         changes();
         fullBalance();
         emptyShaper();

@@ -28,6 +28,8 @@ final class SlotTest {
         Check.sentence("1 to 200, the TIME not more than 100000 then");
         RefundShaper whole = at99800();
         Check.due("run to 100000 by 200", 0, whole.run(200));
+        Check.sentence("TIME is the number of slots that went by (0 at first, at most 100000)");
+        Check.due("TIME at first", 0, new RefundShaper().size(7));
         Check.due("TIME", 100000, whole.size(7));
         Check.dueThrow("run to 100001", IllegalArgumentException.class, () -> whole.run(1));
         Check.dueThrow("run to 100200", IllegalArgumentException.class, () -> whole.run(200));

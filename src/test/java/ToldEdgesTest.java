@@ -99,8 +99,10 @@ final class ToldEdgesTest {
         }
         Check.due("total", 936, shaper.total(5));
         Check.due("fairness of twelve", (double) (936L * 936) / (double) (12 * 93600L), shaper.fairnessOfPrograms());
-        Check.sentence("Returns the program that yielded the most units since the text was parsed, of several the lowest one");
+        Check.sentence("NONE if none yielded any");
         Check.due("mostYielding of no yields", -1, shaper.mostYielding());
+        Check.due("mostYielding of no program", -1, new RefundShaper().mostYielding());
+        Check.sentence("Returns the program that yielded the most units since the text was parsed, of several the lowest one");
         shaper.setLink(77, 100);
         shaper.setYield(11, 50);
         shaper.setYield(10, 55);
@@ -214,7 +216,6 @@ final class ToldEdgesTest {
     }
 
     private static void latestOfNone() {
-        Check.sentence("NONE if there was no slot since the text was parsed");
         RefundShaper shaper = Texts.of(Scenes.FOUR);
         none(shaper, -1);
         shaper.saveSnapshot(0);
@@ -234,10 +235,12 @@ final class ToldEdgesTest {
 
     /** Nothing is capped in the first slots of the four: 0 in a slot, NONE without one. */
     private static void none(RefundShaper shaper, int capped) {
+        Check.sentence("NONE if there was no slot since the text was parsed");
         for (int what = 0; what < 6; what++) {
             Check.due("latest " + what + " is NONE", capped == -1, shaper.latest(3, what) == -1);
         }
         Check.due("latest capped", capped, shaper.latest(0, 1));
+        Check.sentence("Returns whether the latest slot was warned; false if there was none");
         Check.due("isWarned", capped == 0, shaper.isWarned());
     }
 

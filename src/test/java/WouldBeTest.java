@@ -78,6 +78,7 @@ final class WouldBeTest {
         Check.sentence("Promise 21: firstDrop");
         Check.due("firstDrop of none", -1, new RefundShaper().firstDrop());
         Check.due("firstDrop at once", 1, Texts.of(Scenes.FOUR).firstDrop());
+        Check.sentence("Returns behind how many slots, 1 to 200, the first one of them has dropped something; NONE if none has");
         // the rate is n - 1 in slot n
         String growing = "p steady h 0 999 0 1 0 0";
         Check.due("firstDrop", 11, Scenes.free(9, 100, 0, growing).firstDrop());
@@ -131,6 +132,7 @@ final class WouldBeTest {
         RefundShaper low = Scenes.free(99, 1, 0, "a steady h 0 99 60 0 0 0");
         Check.due("bestThreshold of calm slots", 100, low.bestThreshold(30));
         Check.due("bestThreshold of none", 100, new RefundShaper().bestThreshold(30));
+        Check.sentence("Returns the THRESHOLD by which the fewest units would be dropped in so many slots, of several the greatest one");
         // whatever the threshold is, the same is dropped
         RefundShaper fixed = Scenes.free(4, 7, 0, "p meek h 5 5 5 0 0 0");
         Check.due("bestThreshold of equal ones", 100, fixed.bestThreshold(30));
@@ -175,6 +177,7 @@ final class WouldBeTest {
         for (int slots = 1; slots <= 10; slots++) {
             Check.due("neededCapacity " + slots, Math.max(1, slots - 1), growing.neededCapacity(slots));
         }
+        Check.sentence("Returns the least CAPACITY by which nothing would be dropped in so many slots; NONE if there is none from 1 to 9999");
         StringBuilder text = new StringBuilder("link 1 100 0 0 0;house h 99999 0;");
         for (char c = 'a'; c < 'k'; c++) {
             text.append("program ").append(c).append(" meek h 0 999 999 0 0 0;");
