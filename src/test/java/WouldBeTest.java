@@ -177,6 +177,18 @@ final class WouldBeTest {
         for (int slots = 1; slots <= 10; slots++) {
             Check.due("neededCapacity " + slots, Math.max(1, slots - 1), growing.neededCapacity(slots));
         }
+        // whatever ends the warning of slot 1, slot 2 sends 5 units more than it
+        for (int threshold = 1; threshold <= 100; threshold++) {
+            for (int rate = 1; rate <= 12; rate++) {
+                RefundShaper any = Scenes.free(9, threshold, 0, "p steady h 0 99 " + rate + " 5 0 0");
+                Check.due("neededCapacity by THRESHOLD " + threshold, rate + 5, any.neededCapacity(2));
+            }
+        }
+        // by THRESHOLD 1, 2 units warn up to 199: then a has its coins again for c, and slot 2 sends 202, otherwise 200
+        RefundShaper least = Texts.of("link 50 1 1 1 0;house h 999 2;house g 999 9999;program a steady h 0 2 2 0 100 0;"
+                + "program b steady g 0 99 0 99 0 0;program c steady h 0 2 0 2 0 0;"
+                + "program d steady g 0 99 0 99 0 0;program e steady g 0 2 0 2 0 0;");
+        Check.due("neededCapacity that ends a warning by THRESHOLD 1", 200, least.neededCapacity(2));
         Check.sentence("Returns the least CAPACITY by which nothing would be dropped in so many slots; NONE if there is none from 1 to 9999");
         StringBuilder text = new StringBuilder("link 1 100 0 0 0;house h 99999 0;");
         for (char c = 'a'; c < 'k'; c++) {
